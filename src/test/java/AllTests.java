@@ -1,0 +1,17 @@
+public final class AllTests {
+    private AllTests() {
+    }
+
+    public static void main(String[] args) throws Exception {
+        FaceTest.run();
+        MetersTest.run();
+        TicketsTest.run();
+        LinesTest.run();
+        SheetsTest.run();
+        TellingTest.run();
+        AnyCallsTest.run();
+        if (!Check.close()) {
+            System.exit(1);
+        }
+    }
+}
