@@ -470,7 +470,7 @@ public final class TrueLitres {
             case 1: return ticketCount;
             case 2: return countNotReplaced();
             case 3: return shutUpTo;
-            default: return what >= 10 && isMeter(what - 10) ? meters[what - 10].factorCount : OUTSIDE;
+            default: return isMeter(what - 10) ? meters[what - 10].factorCount : OUTSIDE;
         }
     }
 

@@ -6,8 +6,6 @@ final class AnyCallsTest {
         105000, 1000000, 10000000, -1, -2, -9, Integer.MIN_VALUE, Integer.MIN_VALUE + 1, Integer.MAX_VALUE
     };
 
-    private static int seed = 1;
-
     private AnyCallsTest() {
     }
 
@@ -22,21 +20,16 @@ final class AnyCallsTest {
         }
     }
 
-    private static int drawn(int bound) {
-        seed = seed * 1103515245 + 12345;
-        return (seed >>> 8) % bound;
-    }
-
     private static int any() {
-        return NUMBERS[drawn(NUMBERS.length)];
+        return NUMBERS[Draw.below(NUMBERS.length)];
     }
 
     private static int few() {
-        return drawn(8) == 0 ? any() : drawn(4);
+        return Draw.below(8) == 0 ? any() : Draw.below(4);
     }
 
     private static void callAny(TrueLitres x) {
-        int which = drawn(40);
+        int which = Draw.below(40);
         if (which < 12) {
             callOfMeters(x, which);
         } else if (which < 20) {
@@ -51,11 +44,11 @@ final class AnyCallsTest {
     private static void callOfMeters(TrueLitres x, int which) {
         switch (which) {
             case 0 -> x.meter(any());
-            case 1 -> x.factor(few(), 1 + drawn(50), any(), 95000 + drawn(10001));
-            case 2 -> x.at(few(), drawn(60), any());
+            case 1 -> x.factor(few(), 1 + Draw.below(50), any(), 95000 + Draw.below(10001));
+            case 2 -> x.at(few(), Draw.below(60), any());
             case 3 -> x.points(few(), any());
             case 4 -> x.point(few(), any(), few(), few());
-            case 5 -> x.proof(few(), 1 + drawn(50), 1000 + drawn(100000));
+            case 5 -> x.proof(few(), 1 + Draw.below(50), 1000 + Draw.below(100000));
             case 6 -> x.proof(any(), any(), any());
             case 7 -> x.run(any(), any(), any());
             case 8, 9 -> x.run(100, 1000, 1000);
@@ -66,20 +59,20 @@ final class AnyCallsTest {
 
     private static void callOfTickets(TrueLitres x, int which) {
         switch (which) {
-            case 0 -> x.ticket(few(), drawn(401), drawn(10000001), 1 + drawn(50));
+            case 0 -> x.ticket(few(), Draw.below(401), Draw.below(10000001), 1 + Draw.below(50));
             case 1 -> x.ticket(any(), any(), any(), any());
-            case 2 -> x.right(drawn(41) - 1, any());
-            case 3 -> x.remake(few(), drawn(9), any());
-            case 4 -> x.ticketed(any(), drawn(10) - 1);
+            case 2 -> x.right(Draw.below(41) - 1, any());
+            case 3 -> x.remake(few(), Draw.below(9), any());
+            case 4 -> x.ticketed(any(), Draw.below(10) - 1);
             case 5 -> x.volume(any());
             case 6 -> x.sum(few(), any(), any());
-            default -> x.shut(drawn(9) == 0 ? any() : -1);
+            default -> x.shut(Draw.below(9) == 0 ? any() : -1);
         }
     }
 
     private static void callOfLines(TrueLitres x, int which) {
         switch (which) {
-            case 0 -> x.line(few(), few(), drawn(4) - 2);
+            case 0 -> x.line(few(), few(), Draw.below(4) - 2);
             case 1 -> x.lined(any(), any());
             case 2 -> x.end(few(), any());
             case 3 -> x.balance(few(), any(), any(), few());

@@ -244,13 +244,6 @@ final class LinesTest {
         Check.due(y.explains(0, 0, 400), 5000);
     }
 
-    private static int seed = 7;
-
-    private static int drawn(int bound) {
-        seed = seed * 1103515245 + 12345;
-        return (seed >>> 8) % bound;
-    }
-
     /** Small meters drawn by a fixed row of numbers: each x near 0 is tried as the document tells. */
     private static void explainsByTrial() {
         Check.promise(23);
@@ -259,10 +252,10 @@ final class LinesTest {
             TrueLitres x = new TrueLitres();
             for (int m = 0; m < 4; m++) {
                 x.meter(100000);
-                x.end(m, drawn(5001));
-                x.ticket(m, 0, drawn(30), 1);
-                for (int l = 0; l < 1 + drawn(3); l++) {
-                    x.line(drawn(4), m, drawn(3) - 1);
+                x.end(m, Draw.below(5001));
+                x.ticket(m, 0, Draw.below(30), 1);
+                for (int l = 0; l < 1 + Draw.below(3); l++) {
+                    x.line(Draw.below(4), m, Draw.below(3) - 1);
                 }
             }
             for (int m = 0; m < 4; m++) {

@@ -15,6 +15,7 @@ final class MetersTest {
         factorByFlow();
         factorByDay();
         factorCut();
+        factorsFull();
         points();
         point();
         proof();
@@ -184,6 +185,21 @@ final class MetersTest {
         x.factor(0, 10000, 100, 95000);
         Check.due(x.at(0, 9999, 100), 95001);
         Check.due(x.at(0, 2, 100), 104445);
+    }
+
+    private static void factorsFull() {
+        Check.promise(4);
+        TrueLitres x = withMeters(1000);
+        for (int i = 0; i < 12; i++) {
+            x.factor(0, 1200 - 100 * i, 0, 100000 + 100 * i);
+        }
+        Check.due(x.points(0, 0), 12);
+        Check.due(x.point(0, 400, 11, 0), 1200);
+        Check.due(x.point(0, 400, 12, 0), UNKNOWN);
+        Check.due(x.at(0, 50, 0), 101100);
+        Check.due(x.at(0, 1150, 0), 100050);
+        Check.due(x.at(0, 10000, 400), 100000);
+        Check.due(x.factor(0, 1, 0, 100000), FULL);
     }
 
     private static void points() {
