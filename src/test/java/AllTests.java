@@ -4,6 +4,8 @@ public final class AllTests {
 
     public static void main(String[] args) throws Exception {
         FaceTest.run();
+        RefusalsTest.run();
+        EdgesTest.run();
         MetersTest.run();
         TicketsTest.run();
         LinesTest.run();

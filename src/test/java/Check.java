@@ -20,6 +20,15 @@ final class Check {
         }
     }
 
+    /** With the call that was answered, where many are made by one line of a test. */
+    static void due(long got, long want, String call) {
+        if (got == want) {
+            passed++;
+        } else {
+            fail(call + " answered " + got + ", due is " + want);
+        }
+    }
+
     static void dueEach(long[] got, long... want) {
         due(got.length, want.length);
         for (int i = 0; i < Math.min(got.length, want.length); i++) {
@@ -42,7 +51,7 @@ final class Check {
 
     private static String testLine() {
         for (StackTraceElement frame : new Throwable().getStackTrace()) {
-            if (!frame.getClassName().equals("Check")) {
+            if (frame.getClassName().endsWith("Test")) {
                 return frame.getFileName() + ":" + frame.getLineNumber();
             }
         }

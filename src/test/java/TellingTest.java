@@ -1,3 +1,5 @@
+import java.util.List;
+
 /** Promises 30 to 33: the telling, the worth and the kind of a ticket, and the trace. */
 final class TellingTest {
     private static final int UNKNOWN = TrueLitres.UNKNOWN, OUTSIDE = TrueLitres.OUTSIDE;
@@ -12,6 +14,7 @@ final class TellingTest {
         as();
         trace();
         traceWraps();
+        nothingButTrace();
     }
 
     /** Ticket 0 of day 7 put right by 1, which is remade by 2. */
@@ -122,5 +125,27 @@ final class TellingTest {
             due = 31 * due + (i % 3 == 2 ? 5 : 4);
             Check.due(x.trace(), due);
         }
+    }
+
+    private static void nothingButTrace() {
+        for (int t = 0; t < 6; t++) {
+            Check.promise(30);
+            TrueLitres x = Worlds.some();
+            x.tell(t);
+            dueNothingButTrace(x);
+            Check.promise(31);
+            x = Worlds.some();
+            x.worth(t);
+            dueNothingButTrace(x);
+        }
+    }
+
+    private static void dueNothingButTrace(TrueLitres x) {
+        TrueLitres twin = Worlds.some();
+        Check.due(x.fault(), twin.fault());
+        Check.dueTrue(x.trace() != twin.trace(), "a body leaves its number in TRACE");
+        List<Long> now = State.of(x), before = State.of(twin);
+        Check.dueTrue(now.subList(1, now.size()).equals(before.subList(1, before.size())),
+            "nothing but TRACE is changed");
     }
 }
