@@ -15,9 +15,6 @@ final class State {
         for (int what = 0; what < 16; what++) {
             all.add((long) x.told(what));
         }
-        for (int what = 0; what < 4; what++) {
-            all.add((long) x.proving(what));
-        }
         for (int m = 0; m < x.told(0); m++) {
             addMeter(all, x, m);
         }
@@ -27,6 +24,9 @@ final class State {
         for (int k = 0; k < 4; k++) {
             all.add(x.balance(k, 0, 400, 1));
             addCells(all, x, k);
+        }
+        for (int what = 0; what < 4; what++) {
+            all.add((long) x.proving(what));
         }
         return all;
     }

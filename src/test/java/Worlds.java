@@ -37,14 +37,14 @@ final class Worlds {
     }
 
     /**
-     * 6 METERS, all IN at LINE 3, 12 FACTORS of METER 0, 12 RUNS, 40 TICKETS: 0 and 1 (days 10 and 11) would be REMADE.
-     * All is SHUT up to day 5, of which TICKET 2 is; TICKET 3 is REPLACED by 39.
+     * 6 METERS, all at LINE 3 (METER 1 OUT), 12 FACTORS of METER 0, 12 RUNS, 40 TICKETS: 0 and 1 (days 10 and 11)
+     * would be REMADE. All is SHUT up to day 5, of which TICKET 2 is; TICKET 3 is REPLACED by 39.
      */
     static TrueLitres full() {
         TrueLitres x = new TrueLitres();
         for (int m = 0; m < 6; m++) {
             x.meter(1000);
-            x.line(3, m, 1);
+            x.line(3, m, m == 1 ? -1 : 1);
             x.end(m, 5000 - m);
         }
         x.ticket(0, 10, 50, 100);
