@@ -20,6 +20,9 @@ public final class TrueLitres {
     private static final int MOST_RUN_PULSES = 100000, MOST_TIME = 1000000;
     private static final int LEAST_FACTOR = 95000, MOST_FACTOR = 105000, WHOLE = 100000;
     private static final int RUNS_COMPARED = 5;
+    private static final int GREATEST_INT = 0x7fffffff;
+    /** In ml: what no SUM, nor all of them together, comes near to. */
+    private static final long FAR = 1L << 60;
 
     private final Meter[] meters = new Meter[MOST_METERS];
     private int meterCount = 0;
@@ -304,7 +307,7 @@ public final class TrueLitres {
             return LOST;
         }
         int beyondNow = linesBeyond(from, to);
-        long least = Long.MIN_VALUE, most = Long.MAX_VALUE;
+        long least = -FAR, most = FAR;
         for (int l = 0; l < LINES; l++) {
             int how = meters[m].hows[l];
             if (how != 0) {
@@ -441,7 +444,7 @@ public final class TrueLitres {
             return 1;
         }
         leave(4);
-        return (int) Math.min(volumeOf(tickets[t]) / 1000, Integer.MAX_VALUE);
+        return (int) Math.min(volumeOf(tickets[t]) / 1000, GREATEST_INT);
     }
 
     public int as(int t, int kind) {
@@ -730,7 +733,7 @@ public final class TrueLitres {
             if (runCount < RUNS_COMPARED) {
                 return false;
             }
-            long least = Long.MAX_VALUE, greatest = 0;
+            long least = counts[runCount - 1], greatest = least;
             for (int i = runCount - RUNS_COMPARED; i < runCount; i++) {
                 least = Math.min(least, counts[i]);
                 greatest = Math.max(greatest, counts[i]);

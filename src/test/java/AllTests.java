@@ -12,6 +12,8 @@ public final class AllTests {
         SheetsTest.run();
         TellingTest.run();
         AnyCallsTest.run();
+        ModelTest.run();
+        ReadmeTest.run();
         if (!Check.close()) {
             System.exit(1);
         }
